@@ -1124,15 +1124,18 @@ public final class FormulaVoice {
 
         private long placePair(Page page, int node, int i, int j) {
             int word = PAIR_WORDS + page.kinds[node];
-            int wordsOfX = page.bareWords[page.xs[node]];
+            int x = page.xs[node];
+            if (!page.has(x)) {
+                return NONE;
+            }
             long ahead = 0;
             // Begin and end left aside, x has always as many words: that tells which word parts x and y.
             int passed = 0;
             for (int m = i; m < j - 1; m++) {
-                if (row[m] == word && passed == wordsOfX) {
-                    long x = placeIn(page, page.xs[node], i, m);
-                    long y = x < 0 ? NONE : placeIn(page, page.ys[node], m + 1, j);
-                    return y < 0 ? NONE : ahead + x * ways[m + 1][j] + y;
+                if (row[m] == word && passed == page.bareWords[x]) {
+                    long placeOfX = placeIn(page, x, i, m);
+                    long placeOfY = placeOfX < 0 ? NONE : placeIn(page, page.ys[node], m + 1, j);
+                    return placeOfY < 0 ? NONE : ahead + placeOfX * ways[m + 1][j] + placeOfY;
                 }
                 if (row[m] == word) {
                     ahead += ways[i][m] * ways[m + 1][j];

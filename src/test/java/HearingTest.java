@@ -267,6 +267,13 @@ public final class HearingTest {
         g.listen(1, n);
         due("20: a number", g.place(1, n), 0);
         due("20: another number", g.place(1, m), -2);
+        for (int v : new int[] {0, 9, 10, 99, 100, 101, 999, 1000, 9999}) {
+            int pair = g.node(3, g.leaf(1, v), m);
+            g.listen(1, pair);
+            due("20: a pair with " + v + " ahead", g.place(1, pair), 0);
+            g.listen(0, pair);
+            due("20: the same, kept", g.place(8, pair), 0);
+        }
     }
 
     private static void doubt() {

@@ -48,14 +48,36 @@ public final class TwoLinesTest {
         due("28: changed(0, 99)", f.changed(0, 99), -1);
         due("29: exchanged(0, -1)", f.exchanged(0, -1), -1);
         due("29: exchanged(99, 0)", f.exchanged(99, 0), -1);
-        int n = a;
-        int m = b;
+        deepDifferences();
+    }
+
+    private static void deepDifferences() {
+        FormulaVoice f = new FormulaVoice();
+        int letter = f.leaf(0, 0);
+        int number = f.leaf(1, 0);
+        int n = letter;
+        int m = number;
         for (int i = 0; i < 39; i++) {
             n = f.node(7, n, 0);
             m = f.node(7, m, 0);
         }
-        due("28: 40 deep", f.changed(n, m), 1);
-        due("29: 40 deep", f.exchanged(n, m), 0);
+        due("28: 40 deep by x", f.changed(n, m), 2);
+        due("29: 40 deep by x", f.exchanged(n, m), 1);
+        FormulaVoice g = new FormulaVoice();
+        int small = g.leaf(0, 0);
+        int big = g.leaf(1, 0);
+        n = small;
+        m = big;
+        for (int i = 0; i < 19; i++) {
+            n = g.node(4, small, n);
+            m = g.node(4, big, m);
+        }
+        g.keep(0, 4, m);
+        due("28: 20 deep by y", g.changed(n, m), 40);
+        due("29: 20 deep by y", g.exchanged(n, m), 20);
+        due("31: 39 kinds", Check.element(g, 0, 36), 4);
+        due("31: 39 kinds", Check.element(g, 0, 38), 1);
+        due("31: 39 kinds", Check.element(g, 0, 39), Check.ILLEGAL_STATE);
     }
 
     private static void count() {

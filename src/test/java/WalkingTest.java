@@ -112,6 +112,9 @@ public final class WalkingTest {
         due("26: 19 steps", f.lead((int) nineteen), 20);
         due("26: 20 steps", f.lead(1743392200), 19);
         due("25: where(1)", Check.where(f, 1), 20);
+        f.walk(19);
+        due("26: 19 steps, to the end", f.lead((int) nineteen), 0);
+        due("26: 20 steps, one too many", f.lead(1743392200), -1);
         FormulaVoice g = new FormulaVoice();
         int leaf = g.leaf(0, 0);
         int m = leaf;
