@@ -30,6 +30,8 @@ public final class HearingEdgesTest {
         placeOfNone();
         placeOfAll();
         placeOfNumbers();
+        placeOfNumbersAhead();
+        placeOfCalls();
         doubtRanges();
         doubtPaths();
         doubtDeep();
@@ -504,7 +506,8 @@ public final class HearingEdgesTest {
     private static void placeOfAll() {
         int[][] rows = {
             {25, 0, 20, 1, 21, 2}, {0, 20, 1, 20, 2, 20, 3}, {25, 25, 0, 22, 1}, {29, 0, 23, 1, 30, 24, 2, 20, 3},
-            {26, 25, 0, 20, 1, 27, 20, 25, 2, 20, 3}, {25, 29, 0, 20, 1, 20, 2, 30}};
+            {26, 25, 0, 20, 1, 27, 20, 25, 2, 20, 3}, {25, 29, 0, 20, 1, 20, 2, 30}, {29, 25, 0, 20, 1, 30},
+            {29, 25, 0, 23, 1, 24, 2, 30, 21, 3}};
         for (int[] words : rows) {
             Run r = run().words(words);
             long many = Check.readings(heard(words), 8);
@@ -545,6 +548,44 @@ public final class HearingEdgesTest {
             r.asks("20: the number " + number, f -> f.place(1, 0), 0);
             r.asks("20: the one beside it", f -> f.place(1, 1), -2);
         }
+    }
+
+    /** How many words x has depends on its digits. */
+    private static void placeOfNumbersAhead() {
+        int[] numbers = {0, 9, 10, 99, 100, 999, 1000, 9999};
+        for (int number : numbers) {
+            Run r = run();
+            int digits = Integer.toString(number).length();
+            r.does("2: a number", f -> f.leaf(1, number), 0);
+            r.does("2: another one", f -> f.leaf(1, number == 9999 ? 9998 : number + 1), 1);
+            r.does("3: plus itself", f -> f.node(2, 0, 0), 2);
+            r.does("3: plus the other one", f -> f.node(2, 0, 1), 3);
+            r.does("3: the other one ahead", f -> f.node(2, 1, 0), 4);
+            r.does("15: listen", f -> f.listen(1, 2), 2 * digits + 1);
+            r.asks("20: " + number + " ahead", f -> f.place(8, 2), 0);
+            r.asks("20: another one behind", f -> f.place(8, 3), -2);
+            r.asks("20: another one ahead", f -> f.place(8, 4), -2);
+            r.does("15: listen, kept", f -> f.listen(0, 2), 2 * digits + 3);
+            r.asks("20: " + number + " ahead, kept", f -> f.place(0, 2), 0);
+        }
+    }
+
+    private static void placeOfCalls() {
+        Run r = run().letters(0, 1);
+        r.does("5: i is a function", f -> f.means(8, true), 1);
+        r.does("5: j is one", f -> f.means(9, true), 1);
+        r.words(9, 28, 0, 20, 0);
+        r.does("19: j of a, plus a", f -> f.write(1, 0), 4);
+        r.does("19: j of (a plus a)", f -> f.write(1, 1), 8);
+        r.asks("19: a call", f -> f.look(8, 0), 9);
+        r.asks("19: of j", f -> f.look(8, 1), 9);
+        r.asks("19: of a plus a", f -> f.look(8, 2), 7);
+        r.asks("20: the first", f -> f.place(1, 4), 0);
+        r.asks("20: the second", f -> f.place(1, 8), 1);
+        r.does("3: i of (a plus a)", f -> f.node(9, 7, 8), 9);
+        r.asks("20: another letter", f -> f.place(1, 9), -2);
+        r.does("3: j of a", f -> f.node(9, 0, 9), 10);
+        r.asks("20: fewer words", f -> f.place(1, 10), -2);
     }
 
     // ---- promise 21
@@ -715,5 +756,7 @@ public final class HearingEdgesTest {
             r.asks("22: one reading", f -> Check.readings(f, 8), 1);
             r.asks("22: this one", f -> f.place(8, node), 0);
         }
+        r.asks("10: a style is as it was", f -> f.words(1, 3), 5);
+        r.asks("10: and another one", f -> f.words(0, 3), 9);
     }
 }
