@@ -42,8 +42,49 @@ public final class FaceTest {
             check.due("static " + inside.getName(), Modifier.isStatic(inside.getModifiers()) ? 1 : 0, 1);
             check.due("not public " + inside.getName(), Modifier.isPublic(inside.getModifiers()) ? 1 : 0, 0);
         }
+        check.due("some twelve classes at most", type.getDeclaredClasses().length < 12 ? 1 : 0, 1);
+        form(type);
+        for (Class<?> inside : type.getDeclaredClasses()) {
+            form(inside);
+        }
         source();
+        methodLengths();
         check.end();
+    }
+
+    /** Rules 5 and 11: static fields are constants; few parameters and few fields. */
+    private static void form(Class<?> type) {
+        int own = 0;
+        for (Field f : type.getDeclaredFields()) {
+            boolean isStatic = Modifier.isStatic(f.getModifiers());
+            own += isStatic ? 0 : 1;
+            if (isStatic) {
+                boolean constant = Modifier.isFinal(f.getModifiers())
+                        && List.of("int", "long", "boolean", "char", "String").contains(f.getType().getSimpleName());
+                check.due("a constant: " + f, constant ? 1 : 0, 1);
+            }
+        }
+        check.due("fields of " + type.getName(), own <= 20 ? 1 : 0, 1);
+        for (Method m : type.getDeclaredMethods()) {
+            check.due("parameters of " + m, m.getParameterCount() <= 7 ? 1 : 0, 1);
+        }
+    }
+
+    /** Rule 11: a method's first line and its last stand equally far in. */
+    private static void methodLengths() throws IOException {
+        List<String> lines = Files.readAllLines(SOURCE);
+        for (int i = 0; i < lines.size(); i++) {
+            String line = lines.get(i);
+            int in = line.length() - line.stripLeading().length();
+            if (in > 8 || !line.endsWith("{") || !line.contains("(") || line.contains("class ")) {
+                continue;
+            }
+            int j = i;
+            while (j < lines.size() && !lines.get(j).equals(" ".repeat(in) + "}")) {
+                j++;
+            }
+            check.due("short:" + line, j - i < 60 ? 1 : 0, 1);
+        }
     }
 
     private static boolean hasPublic(Class<?> type, String name) {
